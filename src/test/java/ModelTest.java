@@ -1,6 +1,5 @@
 import java.math.BigInteger;
 import java.util.ArrayList;
-import java.util.Arrays;
 import java.util.List;
 import java.util.Random;
 
@@ -220,37 +219,19 @@ public final class ModelTest {
 
     private static long ofModel(Model m, int[] c) {
         switch (c[0]) {
-            case 0: return m.dimension(c[1]);
-            case 1: return m.values(c[1], c[2], c[3]);
-            case 2: return m.facts(c[1]);
-            case 3: return m.views();
-            case 4: return m.digit(c[1], c[2]);
-            case 5: return m.isAbove(c[1], c[2]);
-            case 6: return m.told(c[1], c[2]);
-            case 7: return m.take(c[1]);
-            case 8: return m.step();
-            case 9: return m.choose(c[1]);
-            case 10: return m.chosen(c[1]);
-            case 11: return m.drop();
+            case Calls.DIMENSION: return m.dimension(c[1]);
+            case Calls.VALUES: return m.values(c[1], c[2], c[3]);
+            case Calls.FACTS: return m.facts(c[1]);
+            case Calls.VIEWS: return m.views();
+            case Calls.DIGIT: return m.digit(c[1], c[2]);
+            case Calls.IS_ABOVE: return m.isAbove(c[1], c[2]);
+            case Calls.TOLD: return m.told(c[1], c[2]);
+            case Calls.TAKE: return m.take(c[1]);
+            case Calls.STEP: return m.step();
+            case Calls.CHOOSE: return m.choose(c[1]);
+            case Calls.CHOSEN: return m.chosen(c[1]);
+            case Calls.DROP: return m.drop();
             default: return m.total();
-        }
-    }
-
-    private static long ofClass(ViewChooser x, int[] c) {
-        switch (c[0]) {
-            case 0: return x.dimension(c[1]);
-            case 1: return x.values(c[1], c[2], c[3]);
-            case 2: return x.facts(c[1]);
-            case 3: return x.views();
-            case 4: return x.digit(c[1], c[2]);
-            case 5: return x.isAbove(c[1], c[2]) ? 1 : 0;
-            case 6: return x.told(c[1], c[2]);
-            case 7: return x.take(c[1]);
-            case 8: return x.step();
-            case 9: return x.choose(c[1]);
-            case 10: return x.chosen(c[1]);
-            case 11: return x.drop();
-            default: return x.total();
         }
     }
 
@@ -258,15 +239,7 @@ public final class ModelTest {
         try {
             return Long.toString(ofModel(m, c));
         } catch (IllegalArgumentException | IllegalStateException e) {
-            return e.getClass().getName();
-        }
-    }
-
-    private static String classAnswer(ViewChooser x, int[] c) {
-        try {
-            return Long.toString(ofClass(x, c));
-        } catch (RuntimeException e) {
-            return e.getClass().getName();
+            return "throws." + e.getClass().getSimpleName();
         }
     }
 
@@ -285,21 +258,21 @@ public final class ModelTest {
         int views = m.views() + (random.nextInt(10) == 0 ? 1 : 0);
         int dimensions = m.dimensions.size() + 1;
         // Once settled, a run seldom tells anything, so that many views are chosen.
-        int kind = settled && random.nextInt(8) != 0 ? 3 + random.nextInt(10) : random.nextInt(13);
-        if (kind == 11 && random.nextInt(3) != 0) {
-            kind = 6;
+        int kind = settled && random.nextInt(8) != 0 ? Calls.VIEWS + random.nextInt(10) : random.nextInt(13);
+        if (kind == Calls.DROP && random.nextInt(3) != 0) {
+            kind = Calls.TOLD;
         }
         switch (kind) {
-            case 0: return new int[] {0, upTo(random, 6)};
-            case 1: return new int[] {1, upTo(random, dimensions), upTo(random, 5), amount(random, 1000000)};
-            case 2: return new int[] {2, amount(random, Integer.MAX_VALUE)};
-            case 4: return new int[] {4, upTo(random, views), upTo(random, dimensions)};
-            case 5: return new int[] {5, upTo(random, views), upTo(random, views)};
-            case 6: return new int[] {6, upTo(random, views), upTo(random, 3)};
-            case 7: return new int[] {7, upTo(random, views)};
-            case 9: return new int[] {9, upTo(random, 17)};
-            case 10: return new int[] {10, upTo(random, 17)};
-            default: return new int[] {kind};
+            case Calls.DIMENSION: return Calls.call(Calls.DIMENSION, upTo(random, 6));
+            case Calls.VALUES: return Calls.call(Calls.VALUES, upTo(random, dimensions), upTo(random, 5), amount(random, 1000000));
+            case Calls.FACTS: return Calls.call(Calls.FACTS, amount(random, Integer.MAX_VALUE));
+            case Calls.DIGIT: return Calls.call(Calls.DIGIT, upTo(random, views), upTo(random, dimensions));
+            case Calls.IS_ABOVE: return Calls.call(Calls.IS_ABOVE, upTo(random, views), upTo(random, views));
+            case Calls.TOLD: return Calls.call(Calls.TOLD, upTo(random, views), upTo(random, 3));
+            case Calls.TAKE: return Calls.call(Calls.TAKE, upTo(random, views));
+            case Calls.CHOOSE: return Calls.call(Calls.CHOOSE, upTo(random, 17));
+            case Calls.CHOSEN: return Calls.call(Calls.CHOSEN, upTo(random, 17));
+            default: return Calls.call(kind);
         }
     }
 
@@ -310,12 +283,12 @@ public final class ModelTest {
             return calls;
         }
         int most = 1 + random.nextInt(4);
-        calls.add(new int[] {2, amount(random, Integer.MAX_VALUE)});
+        calls.add(Calls.call(Calls.FACTS, amount(random, Integer.MAX_VALUE)));
         for (int d = 0; d < 8; d++) {
             int levels = 1 + random.nextInt(most);
-            calls.add(new int[] {0, levels});
+            calls.add(Calls.call(Calls.DIMENSION, levels));
             for (int level = 0; level < levels; level++) {
-                calls.add(new int[] {1, d, level, 1 + random.nextInt(1 + (40 >> level))});
+                calls.add(Calls.call(Calls.VALUES, d, level, 1 + random.nextInt(1 + (40 >> level))));
             }
         }
         return calls;
@@ -330,9 +303,9 @@ public final class ModelTest {
         for (int i = 0; i < CALLS; i++) {
             int[] call = i < opening.size() ? opening.get(i) : nextCall(random, m, settled);
             String want = modelAnswer(m, call);
-            String got = classAnswer(x, call);
+            String got = Calls.answer(x, call);
             if (!want.equals(got)) {
-                System.out.println("seed " + seed + ", call " + i + " " + Arrays.toString(call)
+                System.out.println("seed " + seed + ", call " + i + " " + Calls.text(call)
                     + " answered " + got + ", due is " + want);
                 return false;
             }

@@ -1,44 +1,5 @@
 /** For each promise of the document: ordinary inputs, the edges that it names, and wrong inputs. */
-public final class PromisesTest {
-    private static final int NOTHING = 0;
-    private static final int ARGUMENT = 1;
-    private static final int STATE = 2;
-
-    private static int wrong = 0;
-
-    /** A call that may throw. */
-    private interface Call {
-        long answer();
-    }
-
-    private static void due(String what, long got, long want) {
-        if (got != want) {
-            wrong++;
-            System.out.println(what + " answered " + got + ", due is " + want);
-        }
-    }
-
-    private static int thrownBy(Call call) {
-        try {
-            call.answer();
-            return NOTHING;
-        } catch (RuntimeException e) {
-            // The very class counts: NumberFormatException, for one, would be an illegal argument too.
-            if (e.getClass() == IllegalArgumentException.class) {
-                return ARGUMENT;
-            }
-            return e.getClass() == IllegalStateException.class ? STATE : -1;
-        }
-    }
-
-    private static void illegalArgument(String what, Call call) {
-        due(what + " (1 illegal argument)", thrownBy(call), ARGUMENT);
-    }
-
-    private static void illegalState(String what, Call call) {
-        due(what + " (2 illegal state)", thrownBy(call), STATE);
-    }
-
+public final class PromisesTest extends Check {
     /** 100 facts; dimension 0 has levels of 50 and 5 values, dimension 1 one of 10. */
     private static ViewChooser shop() {
         ViewChooser x = new ViewChooser();
@@ -79,7 +40,7 @@ public final class PromisesTest {
 
     private static void promise2Dimension() {
         ViewChooser x = new ViewChooser();
-        int[] bad = {Integer.MIN_VALUE, -1, 0, 5, Integer.MAX_VALUE};
+        int[] bad = {MIN, -1, 0, 5, MAX};
         for (int levels : bad) {
             illegalArgument("dimension(" + levels + ")", () -> x.dimension(levels));
         }
@@ -154,9 +115,9 @@ public final class PromisesTest {
         due("values(1, 0, 11)", x.values(1, 0, 11), 10);
         x.take(2);
         int[][] bad = {
-            {-1, 0, 1}, {2, 0, 1}, {8, 0, 1}, {Integer.MAX_VALUE, 0, 1}, {Integer.MIN_VALUE, 0, 1},
-            {0, -1, 1}, {0, 2, 1}, {1, 1, 1}, {0, Integer.MAX_VALUE, 1}, {0, Integer.MIN_VALUE, 1},
-            {0, 0, -1}, {0, 0, 1000001}, {0, 0, Integer.MAX_VALUE}, {0, 0, Integer.MIN_VALUE},
+            {-1, 0, 1}, {2, 0, 1}, {8, 0, 1}, {MAX, 0, 1}, {MIN, 0, 1},
+            {0, -1, 1}, {0, 2, 1}, {1, 1, 1}, {0, MAX, 1}, {0, MIN, 1},
+            {0, 0, -1}, {0, 0, 1000001}, {0, 0, MAX}, {0, 0, MIN},
         };
         for (int[] b : bad) {
             illegalArgument("values(" + b[0] + ", " + b[1] + ", " + b[2] + ")", () -> x.values(b[0], b[1], b[2]));
@@ -172,12 +133,12 @@ public final class PromisesTest {
     private static void promise4Facts() {
         ViewChooser x = shop();
         due("facts(101)", x.facts(101), 100);
-        due("facts(max)", x.facts(Integer.MAX_VALUE), 101);
-        due("facts(0)", x.facts(0), Integer.MAX_VALUE);
+        due("facts(max)", x.facts(MAX), 101);
+        due("facts(0)", x.facts(0), MAX);
         x.facts(100);
         x.take(5);
         illegalArgument("facts(-1)", () -> x.facts(-1));
-        illegalArgument("facts(min)", () -> x.facts(Integer.MIN_VALUE));
+        illegalArgument("facts(min)", () -> x.facts(MIN));
         due("chosen(0) after illegal facts", x.chosen(0), 5);
         due("cost after illegal facts", x.told(5, 1), 1);
         due("the same facts", x.facts(100), 100);
@@ -215,8 +176,8 @@ public final class PromisesTest {
                 }
             }
         }
-        int[][] bad = {{-1, 0}, {30, 0}, {512, 0}, {Integer.MIN_VALUE, 0}, {Integer.MAX_VALUE, 0},
-            {0, -1}, {0, 3}, {0, 8}, {0, Integer.MIN_VALUE}, {0, Integer.MAX_VALUE}};
+        int[][] bad = {{-1, 0}, {30, 0}, {512, 0}, {MIN, 0}, {MAX, 0},
+            {0, -1}, {0, 3}, {0, 8}, {0, MIN}, {0, MAX}};
         for (int[] b : bad) {
             illegalArgument("digit(" + b[0] + ", " + b[1] + ")", () -> x.digit(b[0], b[1]));
         }
@@ -229,11 +190,11 @@ public final class PromisesTest {
         for (int view = 0; view < 12; view++) {
             for (int other = 0; other < 12; other++) {
                 boolean want = view / 4 <= other / 4 && view % 4 <= other % 4;
-                due("isAbove(" + view + ", " + other + ")", x.isAbove(view, other) ? 1 : 0, want ? 1 : 0);
+                due("isAbove(" + view + ", " + other + ")", x.isAbove(view, other), want);
             }
         }
-        due("isAbove(0, 0) of no dimensions", new ViewChooser().isAbove(0, 0) ? 1 : 0, 1);
-        int[] bad = {-1, 12, 511, 512, Integer.MIN_VALUE, Integer.MAX_VALUE};
+        due("isAbove(0, 0) of no dimensions", new ViewChooser().isAbove(0, 0), true);
+        int[] bad = {-1, 12, 511, 512, MIN, MAX};
         for (int b : bad) {
             illegalArgument("isAbove(" + b + ", 0)", () -> x.isAbove(b, 0) ? 1 : 0);
             illegalArgument("isAbove(0, " + b + ")", () -> x.isAbove(0, b) ? 1 : 0);
@@ -259,8 +220,8 @@ public final class PromisesTest {
             due("cost of " + view + " after 2 and 4", x.told(view, 1), costs[view]);
             due("benefit of " + view + " after 2 and 4", x.told(view, 2), lesser[view]);
         }
-        int[][] bad = {{-1, 0}, {6, 0}, {6, 1}, {6, 2}, {512, 1}, {Integer.MAX_VALUE, 2}, {Integer.MIN_VALUE, 2},
-            {0, -1}, {0, 3}, {0, Integer.MAX_VALUE}, {0, Integer.MIN_VALUE}};
+        int[][] bad = {{-1, 0}, {6, 0}, {6, 1}, {6, 2}, {512, 1}, {MAX, 2}, {MIN, 2},
+            {0, -1}, {0, 3}, {0, MAX}, {0, MIN}};
         for (int[] b : bad) {
             illegalArgument("told(" + b[0] + ", " + b[1] + ")", () -> x.told(b[0], b[1]));
         }
@@ -271,18 +232,18 @@ public final class PromisesTest {
 
     private static void greatProducts() {
         ViewChooser x = new ViewChooser();
-        x.facts(Integer.MAX_VALUE);
+        x.facts(MAX);
         for (int i = 0; i < 8; i++) {
             x.dimension(1);
             x.values(i, 0, 1000000);
         }
-        due("a product of 10 to the 48th", x.told(0, 0), Integer.MAX_VALUE);
-        due("total of the most facts", x.total(), 256L * Integer.MAX_VALUE);
-        due("benefit of a million at the most facts", x.told(127, 2), 2L * (Integer.MAX_VALUE - 1000000));
+        due("a product of 10 to the 48th", x.told(0, 0), MAX);
+        due("total of the most facts", x.total(), 256L * MAX);
+        due("benefit of a million at the most facts", x.told(127, 2), 2L * (MAX - 1000000));
         x.values(7, 0, 0);
         due("a great product times 0", x.told(0, 0), 0);
-        due("a great product without the 0", x.told(1, 0), Integer.MAX_VALUE);
-        due("benefit of an estimate of 0", x.told(0, 2), 256L * Integer.MAX_VALUE);
+        due("a great product without the 0", x.told(1, 0), MAX);
+        due("benefit of an estimate of 0", x.told(0, 2), 256L * MAX);
         x.values(0, 0, 0);
         x.values(7, 0, 1000000);
         due("0 times a great product", x.told(0, 0), 0);
@@ -332,7 +293,7 @@ public final class PromisesTest {
         due("chosen(2)", x.chosen(2), 5);
         due("cost of 5", x.told(5, 1), 1);
         due("cost of 4", x.told(4, 1), 100);
-        int[] bad = {-1, 6, 512, Integer.MIN_VALUE, Integer.MAX_VALUE};
+        int[] bad = {-1, 6, 512, MIN, MAX};
         for (int b : bad) {
             illegalArgument("take(" + b + ")", () -> x.take(b));
         }
@@ -392,8 +353,8 @@ public final class PromisesTest {
         due("chosen(2)", x.chosen(2), 1);
         illegalArgument("choose(-1)", () -> x.choose(-1));
         illegalArgument("choose(17)", () -> x.choose(17));
-        illegalArgument("choose(min)", () -> x.choose(Integer.MIN_VALUE));
-        illegalArgument("choose(max)", () -> x.choose(Integer.MAX_VALUE));
+        illegalArgument("choose(min)", () -> x.choose(MIN));
+        illegalArgument("choose(max)", () -> x.choose(MAX));
         due("choose(16) until no benefit", x.choose(16), 5);
         due("total() after choose(16)", x.total(), 100 + 50 + 50 + 5 + 10 + 1);
         ViewChooser y = full();
@@ -423,7 +384,7 @@ public final class PromisesTest {
         x.step();
         due("chosen(0)", x.chosen(0), 4);
         due("chosen(1)", x.chosen(1), 1);
-        int[] bad = {-1, 2, 15, 16, Integer.MIN_VALUE, Integer.MAX_VALUE};
+        int[] bad = {-1, 2, 15, 16, MIN, MAX};
         for (int b : bad) {
             illegalArgument("chosen(" + b + ")", () -> x.chosen(b));
         }
@@ -461,28 +422,11 @@ public final class PromisesTest {
         due("total() after drop()", x.total(), 600);
         x.facts(0);
         due("total() of no facts", x.total(), 0);
-        x.facts(Integer.MAX_VALUE);
-        due("total() of the most facts", x.total(), 6L * Integer.MAX_VALUE);
+        x.facts(MAX);
+        due("total() of the most facts", x.total(), 6L * MAX);
     }
 
     public static void main(String[] args) {
-        promise1New();
-        promise2Dimension();
-        promise3Values();
-        promise4Facts();
-        promise5Views();
-        promise6Digit();
-        promise7IsAbove();
-        promise8Told();
-        promise9Take();
-        promise10Step();
-        promise11Choose();
-        promise12Chosen();
-        promise13Drop();
-        promise14Total();
-        System.out.println(wrong == 0 ? "all answers are as due" : wrong + " answers are not as due");
-        if (wrong != 0) {
-            System.exit(1);
-        }
+        runAll(PromisesTest.class);
     }
 }
