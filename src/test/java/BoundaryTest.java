@@ -3,7 +3,7 @@ import java.util.Arrays;
 /**
  * For each sentence of the document that names a bound, a test of its own: the last number that is
  * allowed and the first that is not, nothing there yet, as much as there can be, and what is thrown.
- * RefusedCallsTest tells that a call that throws changes nothing.
+ * RefusedCallsTest tells that a call that throws changes nothing, and TermsTest what the terms mean.
  */
 public final class BoundaryTest extends Check {
     private static final int MILLION = 1000000;
@@ -299,15 +299,6 @@ public final class BoundaryTest extends Check {
         due("facts(4) of the first", x.facts(4), 100);
     }
 
-    private static void termsThe512thCallIsStillAnswered() {
-        ViewChooser x = new ViewChooser();
-        x.facts(9);
-        for (int call = 2; call <= 511; call++) {
-            due("call " + call, call % 2 == 0 ? x.step() : x.drop(), call % 2);
-        }
-        due("call 512", x.total(), 9);
-    }
-
     // ---- Promise 1: A new object
 
     private static void promise1NoDimensions() {
@@ -332,10 +323,6 @@ public final class BoundaryTest extends Check {
         due("take(0)", new ViewChooser().take(0), 1);
         due("step()", new ViewChooser().step(), -1);
         due("choose(16)", new ViewChooser().choose(16), 0);
-    }
-
-    private static void promise1NoneIsMinus1() {
-        due("NONE", ViewChooser.NONE, -1);
     }
 
     // ---- Promise 2: dimension

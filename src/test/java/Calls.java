@@ -1,3 +1,5 @@
+import java.util.Arrays;
+
 /** A call as numbers, its method and its arguments, so that the same run can be made on several objects. */
 final class Calls {
     static final int DIMENSION = 0;
@@ -22,6 +24,19 @@ final class Calls {
 
     static int[] call(int... numbers) {
         return numbers;
+    }
+
+    static int methods() {
+        return NAMES.length;
+    }
+
+    static String nameOf(int method) {
+        return NAMES[method];
+    }
+
+    /** -1 if there is no method of that name. */
+    static int methodNamed(String name) {
+        return Arrays.asList(NAMES).indexOf(name);
     }
 
     private static long numberAnswered(ViewChooser x, int[] c) {

@@ -51,11 +51,11 @@ abstract class Check {
         due(what, answerOf(call), STATE);
     }
 
-    /** By name, so that no test is left out because nobody has listed it. */
+    /** By name, so that no test is left out because nobody has listed it; whatever follows, even a digit. */
     private static List<Method> testsOf(Class<?> tests) {
         List<Method> found = new ArrayList<>();
         for (Method method : tests.getDeclaredMethods()) {
-            boolean named = method.getName().matches("(promise[0-9]+|terms)[A-Z].*");
+            boolean named = method.getName().matches("(whatItIs|face|terms|promise|readme).+");
             if (named && method.getParameterCount() == 0) {
                 found.add(method);
             }
@@ -76,7 +76,7 @@ abstract class Check {
         }
     }
 
-    /** Runs every method whose name begins with promise and its number, or with terms. */
+    /** Runs every method whose name begins with the part of the document that it is about, or with readme. */
     static void runAll(Class<?> tests) {
         List<Method> found = testsOf(tests);
         for (Method test : found) {

@@ -4,6 +4,7 @@ import java.util.List;
 /**
  * A call that throws changes nothing: in states from an empty object to a full one, each call that
  * is due to throw is made on one of two equal objects, and both must answer every later call alike.
+ * So it is with calls that are not refused, but only ask or have nothing to choose.
  */
 public final class RefusedCallsTest extends Check {
     private static final int MOST_CALLS = 512;
@@ -160,15 +161,17 @@ public final class RefusedCallsTest extends Check {
         }
     }
 
-    private static void changeNothing(State state, List<int[]> refused, String thrown) {
+    /** The calls between are due to answer alike; no answer is due if it is null. */
+    private static void changeNothing(State state, List<int[]> between, String answer) {
         for (List<int[]> later : laterRuns(state)) {
-            int calls = state.opening.size() + refused.size() + later.size();
+            int calls = state.opening.size() + between.size() + later.size();
             due(state + ": a run within " + MOST_CALLS + " calls", calls <= MOST_CALLS, true);
             ViewChooser x = state.make();
-            for (int[] call : refused) {
-                due(state + ": " + Calls.text(call), Calls.answer(x, call), thrown);
+            for (int[] call : between) {
+                String got = Calls.answer(x, call);
+                due(state + ": " + Calls.text(call), got, answer == null ? got : answer);
             }
-            String last = refused.isEmpty() ? "nothing" : Calls.text(refused.get(refused.size() - 1));
+            String last = between.isEmpty() ? "nothing" : Calls.text(between.get(between.size() - 1));
             sameAnswers(state + ": after " + last, x, state.make(), later);
         }
     }
@@ -198,6 +201,12 @@ public final class RefusedCallsTest extends Check {
             }
             due(state + ": views()", x.views(), state.views);
             due(state + ": drop()", x.drop(), state.chosen);
+        }
+    }
+
+    private static void termsACallThatOnlyAsksChangesNothing() {
+        for (State state : STATES) {
+            changeNothing(state, looking(state), null);
         }
     }
 
@@ -326,6 +335,24 @@ public final class RefusedCallsTest extends Check {
             if (state.chosen == 16) {
                 eachChangesNothing(state, List.of(Calls.call(Calls.STEP)), STATE);
             }
+        }
+    }
+
+    private static void promise10AStepThatChoosesNone() {
+        State none = new State(0, 0, 2, 1);
+        State some = new State(1, 15, 1, 1);
+        List<int[]> twice = List.of(Calls.call(Calls.STEP), Calls.call(Calls.STEP));
+        changeNothing(none, twice, "-1");
+        changeNothing(some, twice, "-1");
+    }
+
+    private static void promise11AsManyOrMoreAreChosen() {
+        for (State state : STATES) {
+            List<int[]> calls = new ArrayList<>();
+            for (int k = 0; k <= state.chosen; k++) {
+                calls.add(Calls.call(Calls.CHOOSE, k));
+            }
+            eachChangesNothing(state, calls, Integer.toString(state.chosen));
         }
     }
 
